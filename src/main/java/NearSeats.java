@@ -698,7 +698,7 @@ public final class NearSeats {
         }
 
         private boolean goesToLeast(int h, int[] cells, int row, int numbers) {
-            int least = Integer.MAX_VALUE;
+            int least = MOST_NUMBER + ENDLESS;
             int longest = 0;
             for (int c = 0; c < churches; c++) {
                 if (!isBarred(h, c)) {
