@@ -91,6 +91,15 @@ final class Edges {
         return seen.toString();
     }
 
+    /** From a home to each church. */
+    static int[] farOf(NearSeats x, int h) {
+        int[] far = new int[x.many(1)];
+        for (int c = 0; c < far.length; c++) {
+            far[c] = x.far(x.ofHome(h, 0), x.ofHome(h, 1), c);
+        }
+        return far;
+    }
+
     // ---- all that calls can show
 
     static String seen(NearSeats x) {

@@ -1,4 +1,4 @@
-/** The document's sections 3 and 4 and promises 16 to 23: families, even, borders, who, places, moved and shut churches. */
+/** The document's sections 3, 4 and promises 16 to 23: families, even, borders, who, places, churches moved, shut. */
 public final class EdgesOfFamiliesTest {
     private static final int LOW = Edges.LOW, HIGH = Edges.HIGH;
     private static final int UNKNOWN = Edges.UNKNOWN, OUTSIDE = Edges.OUTSIDE, STATE = Edges.STATE, FULL = Edges.FULL;
@@ -10,9 +10,11 @@ public final class EdgesOfFamiliesTest {
         edges = new Edges();
         wholeToOneChurch();
         firstRowOfFamilies();
+        allRowsOfSmallLands();
         moreThanSevenHomes();
         noFamilies();
         longestMadeShortest();
+        longestShorterByOne();
         evenWithoutHomesOrSending();
         bordersNumbers();
         bordersSign();
@@ -75,6 +77,48 @@ public final class EdgesOfFamiliesTest {
         rowIs("0 1 1 ahead of 0 1 2", x, 0, 1, 1);
     }
 
+    /** Row by row in their order, for all seats 0 .. 5 of two churches and two of a third. */
+    private static void allRowsOfSmallLands() {
+        edges.sentence("the SENDING of the least MILES of such; of several the first as a row by HOMES of CHURCHES");
+        String land = "h0,0*2;h9,0*3;h0,9*1;q3,3=0;s3,3=0;q5,4=2";
+        NearSeats twin = Edges.landOf(land);
+        int[][] far = {Edges.farOf(twin, 0), Edges.farOf(twin, 1), Edges.farOf(twin, 2)};
+        for (int first = 0; first < 6; first++) {
+            NearSeats x = Edges.landOf(land);
+            x.seats(0, first);
+            for (int second = 0; second < 6; second++) {
+                boolean barred = second % 2 == 1;
+                x.seats(1, second);
+                x.bar(1, 0, barred);
+                asAllRowsSay(x, far, new int[] {first, second, 2}, barred);
+            }
+        }
+    }
+
+    private static void asAllRowsSay(NearSeats x, int[][] far, int[] seats, boolean barred) {
+        int[] heads = {2, 3, 1};
+        int least = NONE, found = NONE;
+        for (int row = 0; row < 27; row++) {
+            int[] church = {row / 9, row / 3 % 3, row % 3}, taken = new int[3];
+            int sum = 0;
+            boolean is = !(barred && church[1] == 0);
+            for (int h = 0; h < 3; h++) {
+                taken[church[h]] += heads[h];
+                is &= taken[church[h]] <= seats[church[h]];
+                sum += heads[h] * far[h][church[h]];
+            }
+            if (is && (least == NONE || sum < least)) {
+                least = sum;
+                found = row;
+            }
+        }
+        String what = "seats " + seats[0] + " " + seats[1] + ": ";
+        edges.is(what + "miles", x.family(-1), least);
+        for (int h = 0; h < 3; h++) {
+            edges.is(what + "home " + h, x.family(h), found == NONE ? NONE : found / (h == 0 ? 9 : h == 1 ? 3 : 1) % 3);
+        }
+    }
+
     private static void moreThanSevenHomes() {
         edges.sentence("(More than 7 HOMES: STATE.)");
         NearSeats x = new NearSeats();
@@ -95,10 +139,18 @@ public final class EdgesOfFamiliesTest {
         edges.is("eight, no sending", x.family(-1), STATE);
         Edges.land(x, "h0,0*1;q3,4=1");
         edges.is("one again", x.family(-1), 25);
+        x = new NearSeats();
+        for (int h = 0; h < 7; h++) x.home(0, 0, 1);
+        x.church(0, 3, 4, 7);
+        edges.is("seven", x.family(-1), 175);
+        Edges.land(x, "h0,0*1;h0,0*1;q9,0=2;q3,4=2");
+        edges.is("what seven took is forgotten", x.family(-1), 50);
+        rowIs("what seven took is forgotten", x, 1, 1);
     }
 
     private static void noFamilies() {
-        edges.sentence("FAMILIES: MILES (h -1), the CHURCH of a HOME; NONE: there is no such SENDING. UNKNOWN: h; STATE.");
+        edges.sentence("FAMILIES: MILES (h -1), the CHURCH of a HOME; NONE: there is no such SENDING. "
+            + "UNKNOWN: h; STATE.");
         edges.is("no homes", new NearSeats().family(-1), 0);
         edges.is("no homes, churches", Edges.landOf("q0,0=0").family(-1), 0);
         edges.is("no home 0", Edges.landOf("q0,0=0").family(0), UNKNOWN);
@@ -123,7 +175,8 @@ public final class EdgesOfFamiliesTest {
     }
 
     private static void longestMadeShortest() {
-        edges.sentence("the longest FAR that some head goes, made the shortest; MILES then: the least of SENDINGS with no longer one");
+        edges.sentence("the longest FAR that some head goes, made the shortest; "
+            + "MILES then: the least of SENDINGS with no longer one");
         NearSeats x = Edges.landOf("h0,0*1;h10,0*1;q12,0=1;s15,0=1");
         edges.is("the least miles have the longest way", x.miles(), 154);
         evenIs("even", x, 144, 194);
@@ -139,6 +192,21 @@ public final class EdgesOfFamiliesTest {
         evenIs("a bar", x, 9, 10);
         x.seats(0, 2);
         evenIs("a seat more", x, 1, 2);
+        for (int far = 15; far <= 60; far++) {
+            x = Edges.landOf("h0,0*1;h10,0*1;q12,0=1;s" + far + ",0=1");
+            edges.is("the least miles by the far one", x.miles(), 10 * far + 4);
+            evenIs("steps at " + far, x, Math.max(144, 10 * far - 100), 144 + 10 * far - 100);
+        }
+        x = Edges.landOf("h29,0*1;h30,14*1;s30,14=1;f30,0=1");
+        for (int toll = 141; toll < 280; toll += 2) {
+            x.toll(toll);
+            edges.is("the least miles over the ferry", x.miles(), 10 + toll);
+            evenIs("the longest not over the ferry", x, 150, 290);
+        }
+        x.toll(190);
+        evenIs("a limit that is just the longest", x, 150, 290);
+        x = Edges.full();
+        evenIs("ten homes, five churches", x, 50, 50 + 32 + 18 + 18 + 8 + 2 + 2);
         x = Edges.landOf("h29,0*1;f30,0=1;s29,60=1");
         evenIs("over the ferry", x, 210, 210);
         x.toll(999);
@@ -147,8 +215,24 @@ public final class EdgesOfFamiliesTest {
         evenIs("as far over it", x, 600, 600);
     }
 
+    /** Homes 0, 1 go 180 at the longest (or over the ferry), homes 2, 3 go 180 or, with less miles, 181. */
+    private static void longestShorterByOne() {
+        edges.sentence("the longest FAR that some head goes, made the shortest");
+        for (int toll = 180; toll < 338; toll++) {
+            NearSeats x = Edges.landOf("h29,0*1;h30,17*1;h0,20*1;h1,38*1;s30,17=1;f30,0=1;q10,29=1;s0,38=1");
+            for (int k = 0; k < 4; k++) {
+                x.bar(k / 2, 2 + k % 2, true);
+                x.bar(2 + k / 2, k % 2, true);
+            }
+            x.toll(toll);
+            edges.is("the least miles", x.miles(), 10 + toll + 181 + 10);
+            evenIs("toll " + toll, x, 180, 180 + 170 + 180 + 162);
+        }
+    }
+
     private static void evenWithoutHomesOrSending() {
-        edges.sentence("EVEN: the longest FAR (what 0; 0: there are no HOMES), MILES then (1); NONE: there is no SENDING. OUTSIDE.");
+        edges.sentence("EVEN: the longest FAR (what 0; 0: there are no HOMES), MILES then (1); "
+            + "NONE: there is no SENDING. OUTSIDE.");
         evenIs("nothing", new NearSeats(), 0, 0);
         evenIs("no homes", Edges.landOf("q9,9=0"), 0, 0);
         evenIs("no churches", Edges.landOf("h0,0*1"), NONE, NONE);
@@ -219,8 +303,9 @@ public final class EdgesOfFamiliesTest {
     }
 
     private static void bordersLost() {
-        edges.sentence("LOST: UNKNOWN; OUTSIDE: which, both are one; STATE: one is no SQUARE one (a STEPS one is not either here), "
-            + "both are at one SPOT, there is no SENDING.");
+        edges.sentence("LOST: UNKNOWN; OUTSIDE: which, both are one; "
+            + "STATE: one is no SQUARE one (a STEPS one is not either here), both are at one SPOT, "
+            + "there is no SENDING.");
         NearSeats x = Edges.landOf("q0,0=1;q10,0=1;s20,0=1;f30,0=1;q0,0=1");
         for (int which = 0; which < 3; which++) {
             for (int k : new int[] {LOW, -1, 5, HIGH}) {
@@ -405,7 +490,8 @@ public final class EdgesOfFamiliesTest {
         x.seats(1, 0);
         edges.is("of two: 9", x.best(2), 9);
         edges.is("of three: 11 ahead of 13", x.best(3), 11);
-        edges.sentence("BEST of k: the set; NONE: there is no SENDING by any. OUTSIDE: k is not 0 .. how many CHURCHES there are.");
+        edges.sentence("BEST of k: the set; NONE: there is no SENDING by any. "
+            + "OUTSIDE: k is not 0 .. how many CHURCHES there are.");
         for (int k : new int[] {LOW, -1, 6, HIGH}) edges.is("k " + k, x.best(k), OUTSIDE);
         edges.is("nothing, of none", new NearSeats().best(0), 0);
         edges.is("nothing, of one", new NearSeats().best(1), OUTSIDE);

@@ -330,7 +330,8 @@ public final class EdgesOfLandTest {
 
     private static void wideCodes() {
         edges.sentence("(Codes: h 104, q 113, s 115, f 102, the comma 44, * 42, = 61, ; 59, digits 48 .. 57.)");
-        int[] row = {104, 48, 44, 57, 42, 53, 59, 113, 49, 44, 56, 61, 52, 59, 115, 50, 44, 55, 61, 51, 59, 102, 54, 44, 48, 61, 57};
+        int[] row = {104, 48, 44, 57, 42, 53, 59, 113, 49, 44, 56, 61, 52, 59, 115, 50, 44, 55, 61, 51, 59,
+            102, 54, 44, 48, 61, 57};
         NearSeats x = new NearSeats();
         for (int lane = 0; lane < 3; lane++) {
             Edges.row(x, lane, lane, row);
@@ -431,6 +432,9 @@ public final class EdgesOfLandTest {
         landIs(repeat("h0,0*1", 5) + ";s0,0=9;" + repeat("h0,0*1", 5) + ";h", -177);
         NearSeats x = Edges.full();
         edges.is("of one text, not with those before", Edges.land(x, ten), 10);
+        edges.is("of one text, not with those before", Edges.land(x, ten), 10);
+        edges.is("one that is not taken", Edges.land(x, ten + ";h"), -170);
+        edges.is("of one text, not with those before", Edges.land(x, ten), 10);
     }
 
     private static void tooManyChurches() {
@@ -450,7 +454,10 @@ public final class EdgesOfLandTest {
         landIs(mixed + ";s0,0=0", -135);
         landIs(mixed + ";h0,0*1", 6);
         landIs(mixed + ";h", -136);
-        edges.is("of one text, not with those before", Edges.land(Edges.full(), mixed), 5);
+        NearSeats x = Edges.full();
+        edges.is("of one text, not with those before", Edges.land(x, mixed), 5);
+        edges.is("one that is not taken", Edges.land(x, mixed + ";s"), -135);
+        edges.is("of one text, not with those before", Edges.land(x, mixed), 5);
     }
 
     private static void aTextThatIsTaken() {

@@ -22,6 +22,7 @@ public final class EdgesOfSendingsTest {
         weightWithoutSending();
         lineOfTheLeast();
         lineWithoutSending();
+        allSendingsOfSmallLands();
         proofIsASending();
         proofsNumbers();
         proofGoesToTheLeast();
@@ -102,6 +103,17 @@ public final class EdgesOfSendingsTest {
         edges.is("the nearest first were 1 and 4", x.miles(), 5);
         x = Edges.landOf("h1,0*1;h0,0*1;q1,0=1;q3,0=1");
         edges.is("the nearest first were 0 and 9", x.miles(), 5);
+        x = Edges.landOf("h0,0*2;h10,0*1;h9,0*1;h0,0*2;q0,0=2;q10,0=2;q20,0=2");
+        x.bar(0, 2, true);
+        x.bar(3, 1, true);
+        x.bar(3, 2, true);
+        edges.is("two move on, one each of two homes behind them", x.miles(), 2 * 100 + 100 + 121);
+        x = Edges.landOf("h0,0*1;h1,0*1;h10,0*2;h0,0*2;q0,0=2;q10,0=2;q20,0=2");
+        x.bar(0, 2, true);
+        x.bar(1, 2, true);
+        x.bar(3, 1, true);
+        x.bar(3, 2, true);
+        edges.is("one each of two homes moves on, two behind them", x.miles(), 100 + 81 + 2 * 100);
     }
 
     private static void milesFollowChanges() {
@@ -145,6 +157,12 @@ public final class EdgesOfSendingsTest {
         edges.is("none", x.few(), 0);
         x.seats(0, 44);
         edges.is("nine homes", x.few(), 511);
+        x = Edges.full();
+        edges.is("ten homes, five churches", x.few(), 0);
+        for (int c = 0; c < 5; c++) x.seats(c, 1);
+        edges.is("six of them", x.few(), 63);
+        Edges.land(x, "h0,0*3;q0,0=1;q0,0=1");
+        edges.is("seats of churches of before are none", x.few(), 1);
     }
 
     private static void fewLeavesOutWhatAllAreBarredFrom() {
@@ -246,6 +264,15 @@ public final class EdgesOfSendingsTest {
         x.bar(0, 0, true);
         edges.is("a bar of another home is not its own", x.line(1), 2);
         edges.is("the barred home", x.line(0), 2);
+        x = Edges.landOf("h0,0*1;h0,0*1;h0,0*1;q0,0=5;q1,0=5;q2,0=5");
+        x.bar(1, 0, true);
+        x.bar(2, 0, true);
+        x.bar(2, 1, true);
+        edges.is("each by its own bars", x.line(0) * 100 + x.line(1) * 10 + x.line(2), 124);
+        x = Edges.full();
+        edges.is("the last of ten", x.line(9), 1 << 4);
+        x.bar(9, 4, true);
+        edges.is("the last of ten, barred from the last", x.line(9), 1 << 3);
     }
 
     private static void lineWithoutSending() {
@@ -257,6 +284,74 @@ public final class EdgesOfSendingsTest {
         edges.is("there is one", x.line(1), 1);
         for (int h : new int[] {LOW, -1, 2, HIGH}) edges.is("no home", x.line(h), UNKNOWN);
         edges.is("no homes", new NearSeats().line(0), UNKNOWN);
+    }
+
+    private static final String[] SMALL = {"h0,0*2;h9,0*1;h20,0*1;q0,0=%d;q10,0=%d;q20,0=%d",
+        "h5,5*1;h6,5*2;h40,5*1;s6,5=%d;f35,5=%d;q8,9=%d", "h0,0*1;h0,0*1;h0,0*2;s5,5=%d;s5,5=%d;q0,9=%d",
+        "h30,1*3;h29,1*1;h1,1*1;f29,2=%d;f30,2=%d;q15,1=%d"};
+
+    /** Each sentence by its own words, over all ways to send the heads, for all seats 0 .. 3 of three churches. */
+    private static void allSendingsOfSmallLands() {
+        edges.sentence("A SENDING: each HOME's HEADS parted over CHURCHES from which it is not BARRED, "
+            + "no CHURCH with more than its SEATS.");
+        for (String small : SMALL) {
+            for (int seats = 0; seats < 64; seats++) {
+                NearSeats x = Edges.landOf(String.format(small, seats & 3, seats >> 2 & 3, seats >> 4));
+                int[][] far = headByHead(x);
+                asAllSendingsSay(x, far, "seats " + seats);
+                int h = seats % 3, c = seats % 2;
+                x.bar(h, c, true);
+                for (int k = 0, n = x.ofHome(h, 2), first = firstHead(x, h); k < n; k++) far[first + k][c] = HIGH;
+                asAllSendingsSay(x, far, "a bar, seats " + seats);
+            }
+        }
+    }
+
+    private static int firstHead(NearSeats x, int h) {
+        int heads = 0;
+        for (int k = 0; k < h; k++) heads += x.ofHome(k, 2);
+        return heads;
+    }
+
+    /** Of each single head how far each church is. */
+    private static int[][] headByHead(NearSeats x) {
+        int[][] far = new int[x.many(3)][];
+        for (int h = 0, k = 0; h < 3; h++) {
+            for (int n = x.ofHome(h, 2); n > 0; n--) far[k++] = Edges.farOf(x, h);
+        }
+        return far;
+    }
+
+    private static void asAllSendingsSay(NearSeats x, int[][] far, String what) {
+        int[] room = {x.ofChurch(0, 3), x.ofChurch(1, 3), x.ofChurch(2, 3)};
+        int now = leastOfAll(far, room, HIGH - 1);
+        edges.is(what + ": miles", x.miles(), now);
+        int shortest = 0;
+        while (now != NONE && leastOfAll(far, room, shortest) == NONE) shortest++;
+        edges.is(what + ": even", x.even(0), now == NONE ? NONE : shortest);
+        edges.is(what + ": miles then", x.even(1), now == NONE ? NONE : leastOfAll(far, room, shortest));
+        for (int c = 0; c < 3; c++) {
+            room[c]++;
+            edges.is(what + ": weight", x.weight(c), now == NONE ? NONE : now - leastOfAll(far, room, HIGH - 1));
+            room[c]--;
+        }
+    }
+
+    /** The least miles (or NONE) of all ways to send head by head to three churches, none farther than the limit. */
+    private static int leastOfAll(int[][] far, int[] room, int limit) {
+        int least = NONE;
+        for (int way = 0; way < Math.pow(3, far.length); way++) {
+            int[] taken = new int[3];
+            int sum = 0;
+            boolean is = true;
+            for (int k = 0, rest = way; k < far.length && is; k++, rest /= 3) {
+                int c = rest % 3;
+                is = ++taken[c] <= room[c] && far[k][c] <= limit;
+                sum += far[k][c];
+            }
+            if (is && (least == NONE || sum < least)) least = sum;
+        }
+        return least;
     }
 
     /** Two homes at their churches, of two seats each: heads 2 and 1. */
@@ -290,6 +385,9 @@ public final class EdgesOfSendingsTest {
         proofIs(x, 0, 2, 0, 0, 1, 0, 0);
         x.seats(1, 3);
         proofIs(x, 1, 0, 2, 0, 1, 0, 0);
+        x = Edges.landOf("h0,0*1;q0,0=1");
+        x.bar(0, 0, true);
+        proofIs(x, 0, 1, 0);
         x = Edges.landOf("h0,0*5;q0,0=5");
         proofIs(x, 1, 5, 0);
         x.bar(0, 0, true);
@@ -375,7 +473,8 @@ public final class EdgesOfSendingsTest {
     }
 
     private static void proofsCells() {
-        edges.sentence("n cells of a SHEET from i on, taken as a row of a LANE: HOME by HOME how many go to each CHURCH");
+        edges.sentence("n cells of a SHEET from i on, taken as a row of a LANE: "
+            + "HOME by HOME how many go to each CHURCH");
         NearSeats x = Edges.landOf("h0,0*2;h10,0*1;q0,0=1;q10,0=2");
         int[] cells = {9, 1, 1, 0, 1, 100, 0, 9};
         for (int lane = 0; lane < 3; lane++) {

@@ -264,6 +264,8 @@ public final class EdgesOfSheetsTest {
     }
 
     private static void traceWraps() {
+        edges.sentence("`int trace()`: TRACE.");
+        edges.is("a new object's", new NearSeats().trace(), 0);
         edges.sentence("an int that wraps, 0 at first, becomes 31 times it and the number");
         NearSeats x = Edges.landOf("f0,0=1;q0,0=1");
         edges.is("0 at first", x.trace(), 0);
@@ -293,7 +295,8 @@ public final class EdgesOfSheetsTest {
     }
 
     private static void howMany() {
-        edges.sentence("How many: 0 HOMES, 1 CHURCHES, 2 PLACES, 3 HEADS of all HOMES, 4 SEATS of all CHURCHES. OUTSIDE.");
+        edges.sentence("How many: 0 HOMES, 1 CHURCHES, 2 PLACES, 3 HEADS of all HOMES, 4 SEATS of all CHURCHES. "
+            + "OUTSIDE.");
         NearSeats x = Edges.landOf("h0,0*5;h0,0*2;q0,0=50;s0,0=0;f0,0=3");
         x.place(0, 0);
         int[] many = {2, 3, 1, 7, 53};

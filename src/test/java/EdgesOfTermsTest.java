@@ -20,7 +20,7 @@ public final class EdgesOfTermsTest {
         cellFaults();
         copyFaults();
         asFaults();
-        rowFaults("land", "UNKNOWN; OUTSIDE: lane; CAST (nothing is no CAST); NULL; SIZE: n below 0; INDEX; -100 less it.");
+        rowFaults("land", "UNKNOWN; OUTSIDE: lane; CAST (nothing is no CAST); NULL; SIZE: n below 0; INDEX;");
         rowFaults("check", "UNKNOWN; OUTSIDE: lane; CAST; NULL; SIZE; INDEX; OUTSIDE: n is not");
         firstFaultComesLast();
         proofsLengthComesLast();
@@ -28,6 +28,7 @@ public final class EdgesOfTermsTest {
         faultsHaveNumbers();
         faultOfTheLatestCall();
         setsAreBits();
+        allCallsOfAnObject();
         edges.end();
     }
 
@@ -181,7 +182,8 @@ public final class EdgesOfTermsTest {
     }
 
     private static void copyFaults() {
-        edges.sentence("UNKNOWN; FAULTS NULL (the first, the other), CAST (unlike LANES), INDEX: i, j, n below 0 or beyond.");
+        edges.sentence("UNKNOWN; FAULTS NULL (the first, the other), CAST (unlike LANES), "
+            + "INDEX: i, j, n below 0 or beyond.");
         edges.refuses("the first has nothing", x -> x.copy(3, 0, 0, 0, 1), NULL, 1);
         edges.refuses("the other has nothing", x -> x.copy(0, 0, 3, 0, 1), NULL, 1);
         edges.refuses("both have nothing", x -> x.copy(3, 0, 3, 0, 0), NULL, 1);
@@ -189,7 +191,8 @@ public final class EdgesOfTermsTest {
         edges.refuses("unlike lanes", x -> x.copy(0, 0, 1, 0, 1), CAST, 2);
         edges.refuses("unlike lanes, no cells", x -> x.copy(2, 0, 1, 0, 0), CAST, 2);
         int[][] wrong = {{-1, 0, 1}, {0, -1, 1}, {0, 0, -1}, {6, 0, 1}, {0, 6, 1}, {0, 0, 7}, {1, 0, 6}, {0, 1, 6},
-            {LOW, 0, 1}, {0, LOW, 1}, {0, 0, LOW}, {HIGH, 0, 1}, {0, HIGH, 1}, {0, 0, HIGH}, {1, 1, HIGH}, {HIGH, HIGH, HIGH}};
+            {LOW, 0, 1}, {0, LOW, 1}, {0, 0, LOW}, {HIGH, 0, 1}, {0, HIGH, 1}, {0, 0, HIGH}, {1, 1, HIGH},
+            {HIGH, HIGH, HIGH}};
         for (int[] w : wrong) {
             edges.refuses("i " + w[0] + " j " + w[1] + " n " + w[2], x -> x.copy(0, w[0], 0, w[1], w[2]), INDEX, 3);
         }
@@ -312,6 +315,11 @@ public final class EdgesOfTermsTest {
     }
 
     private static void faultsHaveNumbers() {
+        edges.sentence("Of a call the first that is come to, in the order told; it answers -10 less it");
+        edges.refuses("NULL ahead of INDEX", x -> x.put(3, 9, 1), -10 - 1, 1);
+        edges.refuses("CAST ahead of INDEX", x -> x.copy(0, 9, 1, 9, 9), -10 - 2, 2);
+        edges.refuses("INDEX", x -> x.copy(0, 9, 0, 9, 9), -10 - 3, 3);
+        edges.refuses("SIZE ahead of INDEX", x -> x.land(0, 0, 9, -9), -10 - 4, 4);
         edges.sentence("1 NULL (there is nothing), 2 CAST (it is of another LANE, kind), 3 INDEX");
         NearSeats x = Edges.some();
         edges.is("NULL", x.put(3, 0, 0) * 10 + x.fault(), -109);
@@ -340,11 +348,11 @@ public final class EdgesOfTermsTest {
             edges.is("call " + k + " came to none", x.fault(), 0);
         }
         edges.sentence("The FAULT of the latest call that names one");
-        Edges.Call[] others = {x -> x.home(0, 0, 1), x -> x.church(0, 0, 0, 0), x -> x.ofHome(0, 0), x -> x.ofChurch(0, 0),
-            x -> x.bar(0, 0, true), x -> x.seats(0, 0), x -> x.toll(0), x -> x.far(0, 0, 0), x -> x.miles(), x -> x.few(),
-            x -> x.weight(0), x -> x.line(0), x -> x.family(0), x -> x.even(0), x -> x.border(0, 1, 0), x -> x.who(0, 0),
-            x -> x.place(0, 0), x -> x.move(0), x -> x.open(0), x -> x.best(0), x -> x.lose(0), x -> x.lose(3),
-            x -> x.tell(0), x -> x.ring(0), x -> x.trace(), x -> x.many(0)};
+        Edges.Call[] others = {x -> x.home(0, 0, 1), x -> x.church(0, 0, 0, 0), x -> x.ofHome(0, 0),
+            x -> x.ofChurch(0, 0), x -> x.bar(0, 0, true), x -> x.seats(0, 0), x -> x.toll(0), x -> x.far(0, 0, 0),
+            x -> x.miles(), x -> x.few(), x -> x.weight(0), x -> x.line(0), x -> x.family(0), x -> x.even(0),
+            x -> x.border(0, 1, 0), x -> x.who(0, 0), x -> x.place(0, 0), x -> x.move(0), x -> x.open(0),
+            x -> x.best(0), x -> x.lose(0), x -> x.lose(3), x -> x.tell(0), x -> x.ring(0), x -> x.trace(), x -> x.many(0)};
         for (int k = 0; k < others.length; k++) {
             NearSeats x = Edges.some();
             x.put(0, -1, 0);
@@ -365,5 +373,22 @@ public final class EdgesOfTermsTest {
         x.bar(1, 1, true);
         x.bar(1, 2, true);
         edges.is("few: home 1", x.few(), 2);
+    }
+
+    private static void allCallsOfAnObject() {
+        edges.sentence("An object is used for at most 512 calls after it has been made");
+        NearSeats x = new NearSeats();
+        x.home(0, 0, 5);
+        x.church(Edges.SQUARE, 1, 0, 5);
+        x.church(Edges.STEPS, 1, 0, 0);
+        x.sheet(0, Edges.INTS, 1);
+        int calls = 4;
+        for (int k = 0; calls < 512; k++, calls += 4) {
+            edges.is("call " + (calls + 1) + ", seats", x.seats(1, k % 6 == 5 ? 0 : k % 6 + 1), k % 6);
+            edges.is("call " + (calls + 2) + ", miles", x.miles(), 5);
+            edges.is("call " + (calls + 3) + ", weight", x.weight(1), 0);
+            edges.is("call " + (calls + 4) + ", put", x.put(0, 0, k), 1);
+        }
+        edges.is("calls", calls, 512);
     }
 }
