@@ -52,6 +52,11 @@ public final class EdgesOfSendingsTest {
         x.bar(0, 0, true);
         x.bar(1, 0, true);
         edges.is("seats enough, but barred", x.miles(), NONE);
+        x = Edges.landOf("h5,0*1;h4,0*1;h0,0*1;q0,0=1;q5,0=1;q9,0=1");
+        for (int h = 0; h < 3; h++) x.bar(h, 2, true);
+        edges.is("all are barred from the seat that is left", x.miles(), NONE);
+        x.bar(0, 2, false);
+        edges.is("who has a nearer one may take it", x.miles(), 16 + 1 + 0);
     }
 
     private static void partedHeads() {
