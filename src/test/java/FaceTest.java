@@ -8,6 +8,8 @@ import java.util.ArrayList;
 import java.util.Arrays;
 import java.util.List;
 import java.util.TreeSet;
+import java.util.regex.Matcher;
+import java.util.regex.Pattern;
 
 /** The public face as the document tells it, and those rules of LANGUAGE.md that a look at the text can see. */
 public final class FaceTest {
@@ -21,9 +23,12 @@ public final class FaceTest {
         "int copy(int,int,int,int,int)", "int tell(int)", "int ring(int)", "int as(int,int)", "int trace()",
         "int fault()", "int many(int)"};
     private static final String[] CONSTANTS = {"int UNKNOWN", "int OUTSIDE", "int STATE", "int FULL", "int NONE", "long LOST"};
+    private static final List<String> LIBRARY = List.of("Math.abs", "Math.max", "Math.min", "Integer.bitCount",
+        "Long.MIN_VALUE", "System.arraycopy");
 
     public static void main(String[] args) throws Exception {
         face();
+        document(Files.readString(Path.of("../shared/DOC.md")));
         language(Files.readString(Path.of("src/main/java/NearSeats.java")));
         DUE.end();
     }
@@ -51,6 +56,8 @@ public final class FaceTest {
                 DUE.holds(f + " is a constant", Modifier.isStatic(f.getModifiers()) && Modifier.isFinal(f.getModifiers()));
             } else {
                 DUE.holds(f + " is private", Modifier.isPrivate(f.getModifiers()));
+                DUE.holds(f + " is no static state", !Modifier.isStatic(f.getModifiers())
+                    || Modifier.isFinal(f.getModifiers()));
             }
         }
         DUE.holds("the constants are " + constants, constants.equals(new TreeSet<>(Arrays.asList(CONSTANTS))));
@@ -63,6 +70,10 @@ public final class FaceTest {
                 DUE.holds(m + " bears a name of its own", !open.contains(m.getName()));
                 DUE.holds(m + " has seven parameters at most", m.getParameterCount() <= 7);
             }
+            for (Field f : inside.getDeclaredFields()) {
+                DUE.holds(f + " is no static state", !Modifier.isStatic(f.getModifiers()) || f.getType() == int.class
+                    && Modifier.isFinal(f.getModifiers()));
+            }
             DUE.holds(inside + " has some twenty fields at most", inside.getDeclaredFields().length <= 20);
         }
         hidden.retainAll(open);
@@ -73,12 +84,33 @@ public final class FaceTest {
         DUE.holds("the constants' values", Arrays.equals(values, new int[] {-1, -2, -3, -4, -9}));
     }
 
+    /** That the rows above are the document's own, so that the face is looked at as the document tells it. */
+    private static void document(String words) {
+        int begin = words.indexOf("public final class NearSeats {");
+        int end = words.indexOf("```", begin + 1);
+        DUE.holds("the document tells the face", begin >= 0 && end > begin);
+        if (begin < 0 || end <= begin) {
+            return;
+        }
+        TreeSet<String> told = new TreeSet<>();
+        Matcher method = Pattern.compile("public (int|long) (\\w+)\\(([^)]*)\\);").matcher(words.substring(begin, end));
+        while (method.find()) {
+            told.add(method.group(1) + " " + method.group(2) + "(" + method.group(3).replaceAll(" \\w+(, |$)", ",")
+                .replaceAll(",$", "") + ")");
+        }
+        DUE.holds("the document tells " + told, told.equals(new TreeSet<>(Arrays.asList(METHODS))));
+    }
+
     private static void language(String source) {
         String code = source.replaceAll("(?s)/\\*.*?\\*/", " ").replaceAll("//[^\n]*", " ");
         String[] words = {"throw", "throws", "try", "catch", "synchronized", "assert", "package", "import", "protected",
             "System\\.out", "Exception", "float", "double", "toString", "hashCode", "while", "do", "volatile", "native"};
         for (String word : words) {
             DUE.holds("no " + word, !code.matches("(?s).*\\b" + word + "\\b.*"));
+        }
+        Matcher library = Pattern.compile("\\b(Math|Integer|Long|System|Arrays)\\.(\\w+)").matcher(code);
+        while (library.find()) {
+            DUE.holds(library.group() + " is in the library", LIBRARY.contains(library.group()));
         }
         DUE.holds("no lambda, no method reference", !code.contains("->") && !code.contains("::"));
         DUE.holds("signs of one byte", source.chars().allMatch(sign -> sign < 128));
